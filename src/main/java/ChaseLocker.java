@@ -929,7 +929,10 @@ public final class ChaseLocker {
         }
     }
 
-    /** All of a chase that changes: its rows, its stock and what was counted since the load. */
+    /**
+     * All of a chase that changes: its rows, its stock and what was counted since the load. The rows that the chase
+     * does not have are empty, so they count for nothing: their gap is LONG, and they never fall.
+     */
     private static final class State {
         final Row[] rows = new Row[MOST_ROWS];
         final int[] left = new int[MOST_KINDS];
@@ -1008,7 +1011,7 @@ public final class ChaseLocker {
 
         int tightRows(Plan plan) {
             int many = 0;
-            for (int r = 0; r < plan.rows && r < MOST_ROWS; r++) {
+            for (int r = 0; r < MOST_ROWS; r++) {
                 if (rows[r].isTightIn(plan)) {
                     many++;
                 }
@@ -1093,7 +1096,7 @@ public final class ChaseLocker {
         }
 
         private void impress(Plan plan) {
-            for (int r = 0; r < plan.rows && r < MOST_ROWS; r++) {
+            for (int r = 0; r < MOST_ROWS; r++) {
                 rows[r].slack += rows[r].growthInImpression(plan);
             }
             int fell = dropLooseRows(plan);
@@ -1105,7 +1108,7 @@ public final class ChaseLocker {
 
         /** Returns how many rows fell. */
         int passDay(Plan plan) {
-            for (int r = 0; r < plan.rows && r < MOST_ROWS; r++) {
+            for (int r = 0; r < MOST_ROWS; r++) {
                 rows[r].slack += rows[r].growthInDay(plan);
             }
             days++;
@@ -1114,7 +1117,7 @@ public final class ChaseLocker {
 
         private int dropLooseRows(Plan plan) {
             int fell = 0;
-            for (int r = 0; r < plan.rows && r < MOST_ROWS; r++) {
+            for (int r = 0; r < MOST_ROWS; r++) {
                 if (rows[r].blockCount > 0 && rows[r].loosenessIn(plan) > plan.hold) {
                     pied += rows[r].blockCount;
                     rows[r].dropBlocks();
@@ -1127,7 +1130,7 @@ public final class ChaseLocker {
         }
 
         private boolean isFirm(Plan plan) {
-            for (int r = 0; r < plan.rows && r < MOST_ROWS; r++) {
+            for (int r = 0; r < MOST_ROWS; r++) {
                 if (rows[r].blockCount > 0 && !rows[r].isFirmIn(plan)) {
                     return false;
                 }
@@ -1359,11 +1362,10 @@ public final class ChaseLocker {
         int errorCode;
         int errorPlace = NONE;
         private int size;
-        /** The token that is looked at: its sort, its first byte, the byte behind it, its number. */
+        /** The token that is looked at: its sort, its first byte, the byte behind it. */
         private int token;
         private int start;
         private int behind;
-        private int number;
 
         boolean addBytes(int a, int b, int c, int d, int e) {
             if (inBuffer > MOST_BYTES - BYTES_APPENDED) {
@@ -1465,22 +1467,19 @@ public final class ChaseLocker {
                 fail(3, place);
             }
             isRowTold[row] = true;
+            Row told = state.rows[row];
             for (int i = 0; i <= MOST_BLOCKS && errorCode == 0 && token == NUMBER; i++) {
-                readBlock(plan, state.rows[row]);
-            }
-        }
-
-        private void readBlock(Plan plan, Row told) {
-            int place = start;
-            int length = takeNumber(1, LONGEST_BLOCK);
-            if (told.blockCount >= MOST_BLOCKS) {
-                fail(4, place);
-            }
-            if (length > told.gapIn(plan)) {
-                fail(5, place);
-            }
-            if (errorCode == 0) {
-                told.addBlock(length);
+                place = start;
+                int length = takeNumber(1, LONGEST_BLOCK);
+                if (told.blockCount >= MOST_BLOCKS) {
+                    fail(4, place);
+                }
+                if (length > told.gapIn(plan)) {
+                    fail(5, place);
+                }
+                if (errorCode == 0) {
+                    told.addBlock(length);
+                }
             }
         }
 
@@ -1515,15 +1514,16 @@ public final class ChaseLocker {
             if (token != NUMBER) {
                 fail(1, start);
             }
-            if (number < least || number > most) {
-                fail(2, start);
-            }
             if (errorCode != 0) {
                 return NONE;
             }
-            int taken = number;
+            int number = numberHere();
+            if (number < least || number > most) {
+                fail(2, start);
+                return NONE;
+            }
             advance();
-            return taken;
+            return number;
         }
 
         private boolean isWord(String word) {
@@ -1549,40 +1549,35 @@ public final class ChaseLocker {
             } else if (bytes[start] == ';') {
                 token = SEMICOLON;
                 behind = start + 1;
-            } else if (isLetter(bytes[start])) {
-                findWord();
-            } else if (isDigit(bytes[start])) {
-                findNumber();
+            } else if (isBetween('a', 'z', start)) {
+                behind = endOfRun('a', 'z');
+                token = behind - start <= MOST_LETTERS ? WORD : NO_TOKEN;
+            } else if (isBetween('0', '9', start)) {
+                behind = endOfRun('0', '9');
+                token = behind - start <= MOST_DIGITS ? NUMBER : NO_TOKEN;
             } else {
                 token = NO_TOKEN;
             }
         }
 
-        private void findWord() {
-            behind = start;
-            while (behind < size && isLetter(bytes[behind])) {
-                behind++;
+        private int endOfRun(int least, int most) {
+            int end = start;
+            while (end < size && isBetween(least, most, end)) {
+                end++;
             }
-            token = behind - start <= MOST_LETTERS ? WORD : NO_TOKEN;
+            return end;
         }
 
-        private void findNumber() {
-            number = 0;
-            behind = start;
-            while (behind < size && isDigit(bytes[behind])) {
-                // a number of too many digits is no token, so what it wraps round to is never looked at
-                number = number * 10 + bytes[behind] - '0';
-                behind++;
+        private boolean isBetween(int least, int most, int index) {
+            return index >= 0 && index < MOST_BYTES && bytes[index] >= least && bytes[index] <= most;
+        }
+
+        private int numberHere() {
+            int number = 0;
+            for (int i = start; i < behind && i < size; i++) {
+                number = number * 10 + bytes[i] - '0';
             }
-            token = behind - start <= MOST_DIGITS ? NUMBER : NO_TOKEN;
-        }
-
-        private static boolean isLetter(int b) {
-            return b >= 'a' && b <= 'z';
-        }
-
-        private static boolean isDigit(int b) {
-            return b >= '0' && b <= '9';
+            return number;
         }
     }
 }
