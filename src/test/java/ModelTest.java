@@ -80,9 +80,12 @@ public final class ModelTest {
         int quoins;
         /** 6 impressions, 7 good ones, 8 days, 9 blocks pied, 10 rows fallen. */
         int[] counts = new int[12];
+        /** Too many fillings to try them one by one. */
+        boolean huge;
 
         Model copy() {
             Model c = new Model();
+            c.huge = huge;
             c.size = size;
             c.quoin = quoin;
             c.span = span;
@@ -196,13 +199,103 @@ public final class ModelTest {
         }
 
         Filling choice(int row) {
+            Filling byTable = choiceByTable(row);
+            if (huge) {
+                return byTable;
+            }
             Filling best = null;
             for (Filling f : fillings(row)) {
                 if (best == null || better(f, best)) {
                     best = f;
                 }
             }
+            boolean isSame = best == null ? byTable == null
+                : byTable != null && best.opening == byTable.opening && Arrays.equals(best.counts, byTable.counts);
+            if (!isSame) {
+                throw new IllegalStateException("the model does not agree with itself");
+            }
             return best;
+        }
+
+        /** few[i][t]: the fewest pieces of the kinds from the i-th of the order on that make t; most[i][t] of the i-th. */
+        private Filling choiceByTable(int row) {
+            List<Integer> order = ordered();
+            int[][] few = new int[order.size() + 1][size + 1];
+            int[][] most = new int[order.size()][size + 1];
+            Arrays.fill(few[order.size()], 1, size + 1, 9999);
+            for (int i = order.size() - 1; i >= 0; i--) {
+                int length = lengths[order.get(i)];
+                for (int t = 0; t <= size; t++) {
+                    few[i][t] = 9999;
+                    for (int n = 0; n <= left[order.get(i)] && n * length <= t; n++) {
+                        if (few[i + 1][t - n * length] + n <= few[i][t]) {
+                            few[i][t] = few[i + 1][t - n * length] + n;
+                            most[i][t] = n;
+                        }
+                    }
+                }
+            }
+            int whole = -1;
+            int opening = -1;
+            for (int o : openings(row)) {
+                int t = roomFor(row, o);
+                if (t >= 0 && few[0][t] < 9999 && (whole < 0 || few[0][t] < few[0][whole])) {
+                    whole = t;
+                    opening = o;
+                }
+            }
+            if (whole < 0) {
+                return null;
+            }
+            Filling f = new Filling();
+            f.opening = opening;
+            f.counts = new int[lengths.length];
+            for (int i = 0; i < order.size(); i++) {
+                f.counts[order.get(i)] = most[i][whole];
+                whole -= most[i][whole] * lengths[order.get(i)];
+            }
+            return f;
+        }
+
+        private List<Integer> openings(int row) {
+            List<Integer> all = new ArrayList<>();
+            if (!rows.get(row).hasQuoin && quoins == 0) {
+                all.add(-1);
+                return all;
+            }
+            for (int o = 0; o <= span; o++) {
+                all.add(o);
+            }
+            return all;
+        }
+
+        private int roomFor(int row, int opening) {
+            ModelRow r = rows.get(row);
+            int room = gap(row) + (r.hasQuoin ? quoin + r.opening - r.takeUp : 0);
+            return opening < 0 ? room : room - quoin - opening;
+        }
+
+        int ways(int row) {
+            if (!huge) {
+                return fillings(row).size() % 1000003;
+            }
+            long[] ways = new long[size + 1];
+            ways[0] = 1;
+            for (int k = 0; k < lengths.length; k++) {
+                long[] more = new long[size + 1];
+                for (int n = 0; n <= left[k] && n * lengths[k] <= size; n++) {
+                    for (int t = n * lengths[k]; t <= size; t++) {
+                        more[t] = (more[t] + ways[t - n * lengths[k]]) % 1000003;
+                    }
+                }
+                ways = more;
+            }
+            long sum = 0;
+            for (int o : openings(row)) {
+                int t = roomFor(row, o);
+                sum += t >= 0 ? ways[t] : 0;
+            }
+            return (int) (sum % 1000003);
         }
 
         int fewest(int row) {
@@ -461,7 +554,7 @@ public final class ModelTest {
                 return f == null ? -1 : f.counts[b];
             }
             case "ways":
-                return noRow(a) ? I : (Object) (m.fillings(a).size() % 1000003);
+                return noRow(a) ? I : (Object) m.ways(a);
             case "nearest":
                 return noRow(a) ? I : (Object) nearest(a);
             case "fewestAt":
@@ -899,35 +992,24 @@ public final class ModelTest {
         return x.load(s.length());
     }
 
+    private static final int SMALL = 0;
+    private static final int LARGE = 1;
+    private static final int HUGE = 2;
+
     /** Draws a chase for the model, and returns its text. */
-    private static String drawChase(boolean large) {
+    private static String drawChase(int sort) {
         Model m = new Model();
-        m.size = large ? between(100, 500) : between(10, 60);
-        m.quoin = large ? between(1, 50) : between(1, 8);
+        m.huge = sort == HUGE;
+        m.size = sort == SMALL ? between(10, 60) : draw(3) == 0 ? 500 : between(100, 500);
+        m.quoin = sort == LARGE ? between(1, 50) : between(1, 8);
         m.span = draw(3) == 0 ? draw(21) : draw(6);
         m.quoins = draw(5);
         m.shake = draw(4) == 0 ? draw(10) : draw(3);
         m.dry = draw(4);
         m.hold = draw(3) == 0 ? between(1, 999) : between(30, 300);
-        int kinds = large ? draw(4) : draw(6);
-        m.metal = new boolean[kinds];
-        m.lengths = new int[kinds];
-        m.left = new int[kinds];
         StringBuilder lines = new StringBuilder();
-        for (int k = 0; k < kinds; k++) {
-            boolean isNew = false;
-            while (!isNew) {
-                m.metal[k] = draw(2) == 0;
-                m.lengths[k] = large ? between(20, 99) : between(1, 12);
-                isNew = true;
-                for (int j = 0; j < k; j++) {
-                    isNew &= m.metal[j] != m.metal[k] || m.lengths[j] != m.lengths[k];
-                }
-            }
-            m.left[k] = large ? draw(12) : draw(5);
-            lines.append(m.metal[k] ? ";metal " : ";wood ").append(m.lengths[k]).append(' ').append(m.left[k]);
-        }
-        int rows = between(1, large ? 8 : 4);
+        drawKinds(m, sort, lines);
+        int rows = between(1, sort == SMALL ? 4 : 8);
         for (int i = 0; i < rows; i++) {
             ModelRow r = new ModelRow();
             m.rows.add(r);
@@ -941,8 +1023,31 @@ public final class ModelTest {
             }
         }
         model = m;
+        history.clear();
+        Arrays.fill(saves, null);
         return "chase " + m.size + " " + rows + " " + m.quoin + " " + m.span + " " + m.quoins + ";rules " + m.shake
             + " " + m.dry + " " + m.hold + lines;
+    }
+
+    private static void drawKinds(Model m, int sort, StringBuilder lines) {
+        int kinds = sort == LARGE ? draw(4) : sort == SMALL ? draw(6) : between(6, 10);
+        m.metal = new boolean[kinds];
+        m.lengths = new int[kinds];
+        m.left = new int[kinds];
+        int longest = sort == SMALL ? 12 : draw(2) == 0 ? 20 : 99;
+        for (int k = 0; k < kinds; k++) {
+            boolean isNew = false;
+            while (!isNew) {
+                m.metal[k] = draw(2) == 0;
+                m.lengths[k] = sort == LARGE ? between(20, 99) : between(1, longest);
+                isNew = true;
+                for (int j = 0; j < k; j++) {
+                    isNew &= m.metal[j] != m.metal[k] || m.lengths[j] != m.lengths[k];
+                }
+            }
+            m.left[k] = sort == LARGE ? draw(12) : sort == SMALL ? draw(5) : draw(100);
+            lines.append(m.metal[k] ? ";metal " : ";wood ").append(m.lengths[k]).append(' ').append(m.left[k]);
+        }
     }
 
     private static int drawArgument(String call) {
@@ -978,14 +1083,26 @@ public final class ModelTest {
         }
     }
 
-    private static void run(int number, boolean large) {
+    private static void run(int number, int sort) {
         ChaseLocker x = new ChaseLocker();
-        history.clear();
-        Arrays.fill(saves, null);
         text = "";
-        StringBuilder told = new StringBuilder(drawChase(large));
+        StringBuilder told = new StringBuilder(drawChase(sort));
         load(x, told.toString());
         for (int n = 0; n < 400; n++) {
+            if (draw(150) == 0) {
+                String next = drawChase(sort);
+                told.append("\nload ").append(next);
+                load(x, next);
+            }
+            if (draw(100) == 0) {
+                told.append("\na text with an error");
+                try {
+                    load(x, "chase 77 3 9 2 4;rules 1 2 3;metal 3 4;row 0 5;row 1 78");
+                    wrong++;
+                } catch (IllegalArgumentException e) {
+                    wrong += x.parseError() == 5 && x.errorPosition() == 53 ? 0 : 1;
+                }
+            }
             String name = draw(2) == 0 ? OFTEN[draw(OFTEN.length)] : CALLS[draw(CALLS.length)];
             if (name.equals("restore") && draw(4) != 0) {
                 name = "save";
@@ -1170,9 +1287,9 @@ public final class ModelTest {
 
     private static void spoiled(int number) {
         ChaseLocker x = new ChaseLocker();
-        String s = drawChase(false);
+        String s = drawChase(SMALL);
         for (int n = 0; n < 12; n++) {
-            s = draw(4) == 0 ? drawChase(false) : spoil(s);
+            s = draw(4) == 0 ? drawChase(SMALL) : spoil(s);
             int[] due = parse(s);
             Object got = "0";
             try {
@@ -1196,7 +1313,7 @@ public final class ModelTest {
         int runs = args.length > 0 ? Integer.parseInt(args[0]) : 600;
         seed += args.length > 1 ? Integer.parseInt(args[1]) : 0;
         for (int n = 0; n < runs && wrong < 5; n++) {
-            run(n, n % 4 == 3);
+            run(n, n % 20 == 19 ? HUGE : n % 4 == 3 ? LARGE : SMALL);
             for (int i = 0; i < 10; i++) {
                 spoiled(n);
             }

@@ -155,6 +155,14 @@ public final class PromisesTest {
         is(y.count(11), 0);
         is(y.kindOf(false, 10), NONE);
 
+        load(y, BASE);
+        y.lock(0);
+        y.print(1);
+        y.freshChoice(1);
+        y.goodIn(9);
+        is(load(y, BASE), 3);
+        is(all(y), all(base()));
+
         promise(6);
         is(y.buffered(), 0);
         type(y, "chase");
@@ -399,6 +407,7 @@ public final class PromisesTest {
         x.print(1);
         is(x.row(0, 3), 0);
         is(x.isTight(0), false);
+        is(x.isTight(2), false);
         fails(I, () -> x.isTight(3));
         fails(I, () -> x.isTight(-1));
     }
@@ -542,8 +551,11 @@ public final class PromisesTest {
         is(metal.ways(0), 2);
         fails(I, () -> x.ways(3));
         fails(I, () -> x.ways(-1));
-        // 1 + 2 + .. in two kinds of 1: 500 ways and one; with five kinds far more than the modulus
+        // the last of these is far more than the modulus
         is(chase("chase 90 1 5 0 0;rules 0 0 99;wood 1 99;metal 1 99").ways(0), 91);
+        ChaseLocker ten = chase("chase 500 1 5 20 0;rules 0 0 99;wood 1 99;metal 1 99;wood 2 99;metal 2 99;wood 3 99;"
+            + "metal 3 99;wood 4 99;metal 4 99;wood 5 50;metal 5 20");
+        is(choiceText(ten, 0), "20xm5 50xw5 37xm4 1xm2");
         ChaseLocker many = chase("chase 500 1 5 20 1;rules 0 0 99;wood 1 99;metal 1 99;wood 2 99;metal 2 99;wood 3 99;"
             + "metal 3 99;wood 4 99;metal 4 99;wood 5 99;metal 5 99");
         is(many.ways(0), waysPlainly(new int[] {1, 1, 2, 2, 3, 3, 4, 4, 5, 5}, 99, 495, 20));
@@ -626,12 +638,8 @@ public final class PromisesTest {
         // 15 or 14: 6 + 6 + 3 is there
         is(y.missing(0), NONE);
         y.place(0, 1);
-        // 14 or 13, with 6, 6, 3, 3: none of 12, 15, .. is it
+        // 14 or 13: no piece more makes it, as all lengths are multiples of 3
         is(y.missing(0), NONE);
-        y.lift(0, 0);
-        y.put(0, 1);
-        y.lock(0);
-        y.unlock(0);
         is(chase("chase 15 1 5 1 0;rules 0 0 99;metal 3 0;wood 5 2;metal 5 0;wood 3 0").missing(0), 2);
         is(chase("chase 15 1 5 1 0;rules 0 0 99;metal 3 4;wood 4 2;wood 3 0").missing(0), 1);
         is(chase("chase 15 1 5 1 0;rules 0 0 99;wood 3 0;metal 3 4;wood 4 1").missing(0), 1);
