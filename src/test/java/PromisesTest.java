@@ -440,6 +440,8 @@ public final class PromisesTest {
         is(x.longestLeft(), 0);
         x.put(3, 0);
         is(x.longestLeft(), 2);
+        is(chase("chase 30 1 5 4 2;rules 1 1 99;wood 1 0;wood 2 0;wood 3 0;wood 4 0;wood 5 0;wood 6 0;wood 7 0;"
+            + "wood 8 0;wood 9 0;wood 10 0").longestLeft(), NONE);
 
         promise(18);
         fails(S, () -> new ChaseLocker().lengthLeft());
