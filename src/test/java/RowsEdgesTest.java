@@ -233,6 +233,38 @@ public final class RowsEdgesTest {
             take 0 2 = 2
             writeRow 0 = "m3 w3"
             """);
+        Script.edge("11: in the order in which they were put in, of forty pieces, when the first and one in the midst go", """
+            chase 500 1 5 4 2;rules 2 3 40;wood 3 99;metal 3 99
+            9 times put 0 0
+            9 times put 0 1
+            14 times put 0 0
+            8 times put 0 1
+            writeRow 0 = 119
+            piece 0 0 = 0
+            piece 0 8 = 0
+            piece 0 9 = 1
+            piece 0 15 = 1
+            piece 0 16 = 1
+            piece 0 17 = 1
+            piece 0 18 = 0
+            piece 0 31 = 0
+            piece 0 32 = 1
+            piece 0 39 = 1
+            take 0 0 = 0
+            piece 0 7 = 0
+            piece 0 8 = 1
+            piece 0 16 = 1
+            piece 0 17 = 0
+            piece 0 30 = 0
+            piece 0 31 = 1
+            take 0 16 = 1
+            piece 0 15 = 1
+            piece 0 16 = 0
+            piece 0 29 = 0
+            piece 0 30 = 1
+            piece 0 37 = 1
+            piece 0 38 = I
+            """);
         Script.edge("1.1: a row has any number of pieces: 500 of the length 1", """
             chase 500 1 1 0 0;rules 0 0 999;wood 1 99;metal 1 99;row 0 200 102
             lock 0 = 198
