@@ -326,7 +326,7 @@ public final class ChangeEdgesTest {
             chase 20 1 5 4 0;rules 0 0 99;row 0 20
             lock 0 = 0
             """);
-        Script.edge("46: its pieces behind those that are there, the longest kind first (of the same length metal first)", """
+        Script.edge("46: its pieces behind those that are there, the longest kind first, of the same length metal", """
             chase 60 1 5 4 1;rules 0 0 99;wood 3 9;metal 12 1;wood 12 1;metal 7 1;wood 7 9
             put 0 0
             put 0 4

@@ -233,7 +233,7 @@ public final class RowsEdgesTest {
             take 0 2 = 2
             writeRow 0 = "m3 w3"
             """);
-        Script.edge("11: in the order in which they were put in, of forty pieces, when the first and one in the midst go", """
+        Script.edge("11: in the order in which they were put in, of forty pieces of which two go out", """
             chase 500 1 5 4 2;rules 2 3 40;wood 3 99;metal 3 99
             9 times put 0 0
             9 times put 0 1

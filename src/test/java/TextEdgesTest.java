@@ -75,7 +75,7 @@ public final class TextEdgesTest {
             quoin 0 true
             writeChoice 2 = "4xw3"
             """);
-        Script.edge("37: the longest kind first, of the same length metal first, kinds of which some are in it alone", """
+        Script.edge("37: the longest kind first, of the same length metal first, each kind of it", """
             chase 60 1 5 0 0;rules 0 0 99;wood 3 1;wood 12 1;metal 12 2;metal 7 1;metal 2 0;wood 7 2
             writeChoice 0 = "2xm12 1xw12 1xm7 2xw7 1xw3"
             """);
